@@ -9,6 +9,7 @@ public final class DaysTest {
         buys();
         keeps();
         undo();
+        undoGivesBackJoy();
         undoEightAtMost();
         undoLeavesHints();
         of();
@@ -174,6 +175,39 @@ public final class DaysTest {
         x.undo();
         x.undo();
         Check.due("the same again", x.digest(), second);
+    }
+
+    private static void undoGivesBackJoy() {
+        PledgeWindow x = new PledgeWindow();
+        x.promise(0, 5);
+        x.promise(0, 7);
+        x.promise(0, 4);
+        x.hearer(0, 5);
+        x.buyer(0);
+        x.buyer(0);
+        x.buyer(99);
+        x.buys(2, 0);
+        x.buys(2, 1);
+        x.buys(2, 2);
+        // the third BUYER keeps what he HOLDS just as any other
+        Check.due("keeps(0, 0)", x.keeps(0, 0), 6);
+        Check.due("keeps(1, 0)", x.keeps(1, 0), 4);
+        Check.due("keeps(2, 0)", x.keeps(2, 0), 5);
+        x.days(1);
+        Check.due("JOY of all", x.count(6), 15);
+        x.undo();
+        Check.due("JOY behind undone DAYS", x.count(6), 15);
+        x.undo();
+        Check.due("JOY behind one undone", x.count(6), 10);
+        Check.due("HELD by the third BUYER again", x.of(2, 3), 3);
+        x.undo();
+        Check.due("JOY behind two undone", x.count(6), 6);
+        Check.due("KEPT then", x.about(0, 2), 1);
+        x.undo();
+        Check.due("JOY behind three undone", x.count(6), 0);
+        x.undo();
+        Check.due("PURSE then", x.purse(2, 0), 73);
+        Check.due("IN THE WINDOW again", x.of(2, 3), 0);
     }
 
     private static void undoEightAtMost() {

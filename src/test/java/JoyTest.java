@@ -311,6 +311,15 @@ public final class JoyTest {
         z.hearer(0, 1);
         z.buyer(9);
         buyIs(z, 0, 0, 0, 0);
+        z.promise(0, 7);
+        z.promise(4, 5);
+        z.promise(0, 6);
+        z.buyer(99);
+        // a JOY of 1 is better than none, but the PURSE of 9 holds just the SHIP
+        buyIs(z, 0, 0, 5, 2);
+        z.days(7);
+        buyIs(z, 0, 0, 0, 0);
+        buyIs(z, 1, 0, 1, 4);
     }
 
     private static void buyBad() {

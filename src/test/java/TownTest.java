@@ -265,6 +265,10 @@ public final class TownTest {
     private static void readFaultsOfWords() {
         PledgeWindow x = new PledgeWindow();
         fault(x, "city;", 0);
+        fault(x, "gown;", 0);
+        fault(x, "towm;", 0);
+        fault(x, "town;says 1;", 5);
+        fault(x, "town;dayz 1;", 5);
         fault(x, "  city;", 2);
         fault(x, "towns;", 0);
         fault(x, "tow;", 0);

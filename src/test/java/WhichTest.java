@@ -15,6 +15,7 @@ public final class WhichTest {
         kinds();
         ask();
         bids();
+        bidsOfAllJoys();
         bidsBad();
         redeemed();
         years();
@@ -97,6 +98,11 @@ public final class WhichTest {
         w.promise(5, 2);
         // new: 0, 4, 4; behind 7: 4, 4, 4; behind 10: 4, 4, 6
         Check.due("the least of like ones", w.tell(), 0);
+        PledgeWindow v = new PledgeWindow();
+        for (int p = 0; p < 7; p++) {
+            v.promise(0, 5);
+            Check.due("all alike for ever", v.tell(), 0);
+        }
     }
 
     private static void note() {
@@ -315,6 +321,56 @@ public final class WhichTest {
         x.buys(2, 2);
         x.keeps(2, 0);
         bidsAre(x, 2, 1, 99);
+    }
+
+    /** What bidder `who` (0: a) gets by bids i of a and j of b, as the document says it. */
+    private static int gets(int who, int joy, int i, int j) {
+        int winner = j > i ? 1 : 0;
+        int paid = winner == 1 ? j : i;
+        return who == winner ? joy - paid / 3 : paid > 5 ? 1 : 0;
+    }
+
+    private static int[] restingPairs(int joy) {
+        int[] pairs = new int[100];
+        int found = 0;
+        for (int pair = 0; pair < 100; pair++) {
+            int i = pair / 10;
+            int j = pair % 10;
+            boolean rests = true;
+            for (int n = 0; n < 10; n++) {
+                rests &= gets(0, joy, n, j) <= gets(0, joy, i, j);
+                rests &= gets(1, joy, i, n) <= gets(1, joy, i, j);
+            }
+            if (rests) {
+                pairs[found] = pair;
+                found++;
+            }
+        }
+        return java.util.Arrays.copyOf(pairs, found);
+    }
+
+    /** JOYS from 0 to a KEEPER's 12, by all WORTHS and KINDS of HEARERS. */
+    private static void bidsOfAllJoys() {
+        boolean[] met = new boolean[13];
+        for (int kind = 0; kind < 6; kind++) {
+            PledgeWindow x = new PledgeWindow();
+            x.hearer(kind, 5);
+            x.hearer(kind, 1);
+            x.buyer(0);
+            x.buyer(0);
+            for (int worth = 3; worth <= 9; worth++) {
+                x.promise(0, worth);
+            }
+            for (int p = 0; p < 7; p++) {
+                for (int h = 0; h < 2; h++) {
+                    met[x.joy(p, h)] = true;
+                    bidsAre(x, p, h, restingPairs(x.joy(p, h)));
+                }
+            }
+        }
+        for (int joy : new int[] {0, 1, 2, 3, 4, 5, 6, 7, 8, 10, 12}) {
+            Check.holds("no JOY of " + joy + " was bid for", met[joy]);
+        }
     }
 
     private static void bidsBad() {

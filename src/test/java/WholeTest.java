@@ -8,6 +8,7 @@ public final class WholeTest {
         image();
         from();
         imagesKeepAll();
+        imagesKeepThePast();
         imagesStandApart();
         status();
         statusOfWhatIsNoRefusal();
@@ -112,6 +113,43 @@ public final class WholeTest {
         Check.due("SEEN", x.count(7), 0);
         Check.due("NOTES", x.count(8), 2);
         Check.due("MARKS", x.count(9), 3);
+    }
+
+    /** What comes behind an IMAGE takes the same places; the IMAGE must hold its own. */
+    private static void imagesKeepThePast() {
+        PledgeWindow x = shop();
+        x.image(1);
+        long kept = x.digest();
+        for (int what = 0; what < 3; what++) {
+            x.forget(what);
+        }
+        x.seen(99, 30);
+        x.seen(99, 29);
+        x.note(0, 9, 99, 30);
+        x.mark(1, 9, 30, 20);
+        x.mark(1, 9, 30, 19);
+        for (int i = 0; i < 9; i++) {
+            x.days(50);
+        }
+        x.image(0);
+        long later = x.digest();
+        Check.due("from(1)", x.from(1), 1);
+        Check.due("SEEN, NOTES, MARKS as they were", x.digest(), kept);
+        Check.due("undo() of DAYS", x.undo(), 12);
+        Check.due("undo() of BUYING", x.undo(), 12);
+        Check.due("IN THE WINDOW then", x.count(4), 2);
+        Check.due("undo() of KEEPING", x.undo(), 12);
+        Check.due("JOY then", x.count(6), 0);
+        Check.due("undo() of BUYING", x.undo(), 12);
+        Check.due("PURSE then", x.purse(0, 0), 50);
+        Check.due("undo() of DAYS", x.undo(), 0);
+        Check.no("undo() of none", x, x::undo);
+        Check.due("from(0)", x.from(0), 1);
+        Check.due("all as it was later", x.digest(), later);
+        for (int i = 1; i <= 8; i++) {
+            Check.due("undo() of 50 DAYS", x.undo(), 464 - 50 * i);
+        }
+        Check.no("undo() of none", x, x::undo);
     }
 
     private static void imagesStandApart() {
