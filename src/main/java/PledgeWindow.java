@@ -588,7 +588,7 @@ public final class PledgeWindow {
         return true;
     }
 
-    /** The least try whose largest crowd of candidates that answer alike is smallest. */
+    /** The first number by which the largest crowd of candidates that answer alike is smallest. */
     private int bestParting(int what, int size, int candidates, int last) {
         if (candidates == 0) {
             return NONE;

@@ -20,7 +20,7 @@ public final class ModelTest {
         5, 4, 6,
         2, 3, 3, 2, 3, 1};
 
-    private static final int RUNS = 600, STEPS = 400;
+    private static final int RUNS = 320, STEPS = 400;
 
     private long dice;
     private final PledgeWindow program = new PledgeWindow();
