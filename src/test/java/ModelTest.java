@@ -1,6 +1,6 @@
 /**
  * Long runs of calls, chosen by numbers that are the same each time, answered by the program
- * and by the model. Behind each call the digest and each STATUS must be alike, too.
+ * and by the model. Behind each call the digest must be alike, too, and each STATUS.
  */
 public final class ModelTest {
     private static final String[] CALLS = {
@@ -20,9 +20,13 @@ public final class ModelTest {
         5, 4, 6,
         2, 3, 3, 2, 3, 1};
 
-    private static final int RUNS = 320, STEPS = 400;
+    private static final int RUNS = 500;
+    /** An object is used for so many calls; each step takes 5 at most, one that reads a TEXT 157. */
+    private static final int CALLS_OF_ONE = 512, STEP = 5, READING = 157;
 
     private long dice;
+    private int left = CALLS_OF_ONE;
+    private long lastDue;
     private final PledgeWindow program = new PledgeWindow();
     private final Model model = new Model();
     private final StringBuilder told = new StringBuilder();
@@ -64,8 +68,11 @@ public final class ModelTest {
 
     private void run(int run) {
         begin(run);
-        for (int step = 0; step < STEPS && told.length() < 100000; step++) {
-            if (!same(pick())) {
+        while (left >= STEP) {
+            String name = pick();
+            boolean alike = !name.equals("read") ? step(name, numbersFor(name))
+                    : left < READING || typesText() && step("read");
+            if (!alike) {
                 System.out.println("in run " + run + " behind:" + told);
                 return;
             }
@@ -75,17 +82,17 @@ public final class ModelTest {
     /** Towns of all sizes: runs begin with as many of each as the run's number tells. */
     private void begin(int run) {
         for (int i = 0; i < run % 8; i++) {
-            same("promise");
+            answersAlike("promise", numbersFor("promise"));
         }
         for (int i = 0; i < run / 8 % 5; i++) {
-            same("hearer");
+            answersAlike("hearer", numbersFor("hearer"));
         }
         for (int i = 0; i < run / 40 % 4; i++) {
-            same("buyer");
+            answersAlike("buyer", numbersFor("buyer"));
         }
         if (run % 10 == 9) {
             for (int i = 0; i < 101; i++) {
-                same("days", 99);
+                answersAlike("days", 99);
             }
         }
     }
@@ -104,30 +111,29 @@ public final class ModelTest {
         return CALLS[i];
     }
 
-    private boolean same(String name) {
-        if (name.equals("read")) {
-            return typeText() && same("read", new int[0]);
+    /** One call; behind it the digest is alike, and so is each STATUS where it may have risen. */
+    private boolean step(String name, int... a) {
+        boolean alike = answersAlike(name, a) & stateAlike("digest");
+        for (int i = 0; i < 3 && lastDue < 0; i++) {
+            alike &= stateAlike("status", i);
         }
-        return same(name, numbersFor(name));
+        return alike;
     }
 
-    private boolean same(String name, int... a) {
-        StringBuilder call = new StringBuilder(name).append('(');
-        for (int i = 0; i < a.length; i++) {
-            call.append(i == 0 ? "" : ", ").append(a[i]);
-        }
-        call.append(')');
-        long got = ask(name, a);
-        long due = model.call(name, a);
-        Check.due(call.toString(), got, due);
-        boolean alike = got == due;
-        for (int i = 0; i < 3; i++) {
-            alike &= program.status(i) == model.call("status", i);
-        }
-        alike &= program.digest() == model.call("digest");
-        Check.holds(call + " left another state than is due", alike);
-        told.append(' ').append(call);
+    private boolean stateAlike(String name, int... a) {
+        left--;
+        boolean alike = Calls.ask(program, name, a) == model.call(name, a);
+        Check.holds(Calls.told(name, a) + " is another one than is due", alike);
         return alike;
+    }
+
+    private boolean answersAlike(String name, int... a) {
+        left--;
+        long got = Calls.ask(program, name, a);
+        lastDue = model.call(name, a);
+        Check.due(Calls.told(name, a), got, lastDue);
+        told.append(' ').append(Calls.told(name, a));
+        return got == lastDue;
     }
 
     private int[] numbersFor(String name) {
@@ -200,17 +206,13 @@ public final class ModelTest {
                 : new int[] {number(0, 6), size, days, answer};
     }
 
-    private boolean typeText() {
+    private boolean typesText() {
         String text = text();
-        if (!same("clear", new int[0])) {
-            return false;
-        }
+        boolean alike = answersAlike("clear");
         for (int i = 0; i < text.length(); i++) {
-            if (!same("type", text.charAt(i))) {
-                return false;
-            }
+            alike &= answersAlike("type", text.charAt(i));
         }
-        return true;
+        return alike;
     }
 
     /** A text that mostly tells a town, and is spoilt at one place in every second case. */
@@ -272,52 +274,5 @@ public final class ModelTest {
     private String figure(int most) {
         int n = most == 9 ? 1 + throwing(9) : throwing(most + 1);
         return (throwing(6) == 0 ? "0" : "") + n;
-    }
-
-    private long ask(String name, int[] a) {
-        PledgeWindow x = program;
-        switch (name) {
-            case "town": return x.town();
-            case "promise": return x.promise(a[0], a[1]);
-            case "hearer": return x.hearer(a[0], a[1]);
-            case "buyer": return x.buyer(a[0]);
-            case "type": return x.type(a[0]);
-            case "clear": return x.clear();
-            case "read": return x.read();
-            case "days": return x.days(a[0]);
-            case "buys": return x.buys(a[0], a[1]);
-            case "keeps": return x.keeps(a[0], a[1]);
-            case "undo": return x.undo();
-            case "of": return x.of(a[0], a[1]);
-            case "about": return x.about(a[0], a[1]);
-            case "purse": return x.purse(a[0], a[1]);
-            case "good": return x.good(a[0], a[1]);
-            case "joy": return x.joy(a[0], a[1]);
-            case "when": return x.when(a[0], a[1]);
-            case "waits": return x.waits();
-            case "fit": return x.fit(a[0]);
-            case "buy": return x.buy(a[0], a[1], a[2]);
-            case "cheap": return x.cheap();
-            case "seen": return x.seen(a[0], a[1]);
-            case "which": return x.which();
-            case "tell": return x.tell();
-            case "note": return x.note(a[0], a[1], a[2], a[3]);
-            case "mark": return x.mark(a[0], a[1], a[2], a[3]);
-            case "forget": return x.forget(a[0]);
-            case "is": return x.is(a[0]);
-            case "look": return x.look(a[0]);
-            case "kinds": return x.kinds(a[0]);
-            case "ask": return x.ask(a[0]);
-            case "bids": return x.bids(a[0], a[1], a[2], a[3], a[4]);
-            case "redeemed": return x.redeemed(a[0]);
-            case "years": return x.years(a[0], a[1]);
-            case "part": return x.part(a[0]);
-            case "image": return x.image(a[0]);
-            case "from": return x.from(a[0]);
-            case "status": return x.status(a[0]);
-            case "count": return x.count(a[0]);
-            case "digest": return x.digest();
-            default: return Long.MIN_VALUE;
-        }
     }
 }

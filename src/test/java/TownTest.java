@@ -257,75 +257,78 @@ public final class TownTest {
         Check.due("all 150 read", x.read(), 25);
     }
 
-    private static void fault(PledgeWindow x, String text, int place) {
+    private static void fault(String text, int place) {
+        faultOf(new PledgeWindow(), text, place);
+    }
+
+    private static void faultOf(PledgeWindow x, String text, int place) {
         Check.type(x, text);
         Check.asks("read() of \"" + text + "\"", x, -10 - place, x::read);
     }
 
     private static void readFaultsOfWords() {
-        PledgeWindow x = new PledgeWindow();
-        fault(x, "city;", 0);
-        fault(x, "gown;", 0);
-        fault(x, "towm;", 0);
-        fault(x, "town;says 1;", 5);
-        fault(x, "town;dayz 1;", 5);
-        fault(x, "  city;", 2);
-        fault(x, "towns;", 0);
-        fault(x, "tow;", 0);
-        fault(x, "Town;", 0);
-        fault(x, "tOwn;", 0);
-        fault(x, "to wn;", 0);
-        fault(x, ";town;", 0);
-        fault(x, "7town;", 0);
-        fault(x, "days 1;town;", 0);
-        fault(x, "promise 0 1;", 0);
-        fault(x, "town;town;", 5);
-        fault(x, "town;days 1;town;", 12);
-        fault(x, "town;;", 5);
-        fault(x, "town town;", 5);
-        fault(x, "town 1;", 5);
-        fault(x, "town;day 1;", 5);
-        fault(x, "town;dayss 1;", 5);
-        fault(x, "town;1;", 5);
-        fault(x, "town;buyer 1;buys 0 0;", 13);
-        fault(x, "town;-", 5);
-        fault(x, "town;\t", 5);
-        fault(x, "town;" + (char) 0, 5);
-        fault(x, "town;" + (char) 127, 5);
-        fault(x, "town\n;", 4);
-        fault(x, "town;days 1,", 11);
-        fault(x, "town;`", 5);
-        fault(x, "town;{", 5);
-        fault(x, "town;days 1:", 11);
-        fault(x, "town;days /", 10);
+        fault("city;", 0);
+        fault("gown;", 0);
+        fault("towm;", 0);
+        fault("town;says 1;", 5);
+        fault("town;dayz 1;", 5);
+        fault("  city;", 2);
+        fault("towns;", 0);
+        fault("tow;", 0);
+        fault("Town;", 0);
+        fault("tOwn;", 0);
+        fault("to wn;", 0);
+        fault(";town;", 0);
+        fault("7town;", 0);
+        fault("days 1;town;", 0);
+        fault("promise 0 1;", 0);
+        fault("town;town;", 5);
+        fault("town;days 1;town;", 12);
+        fault("town;;", 5);
+        fault("town town;", 5);
+        fault("town 1;", 5);
+        fault("town;day 1;", 5);
+        fault("town;dayss 1;", 5);
+        fault("town;1;", 5);
+        fault("town;buyer 1;buys 0 0;", 13);
+        fault("town;-", 5);
+        fault("town;\t", 5);
+        fault("town;" + (char) 0, 5);
+        fault("town;" + (char) 127, 5);
+        fault("town\n;", 4);
+        fault("town;days 1,", 11);
+        fault("town;`", 5);
+        fault("town;{", 5);
+        fault("town;days 1:", 11);
+        fault("town;days /", 10);
     }
 
     private static void readFaultsOfNumbers() {
         PledgeWindow x = new PledgeWindow();
-        fault(x, "town;promise 6 1;", 13);
-        fault(x, "town;promise 10 1;", 13);
-        fault(x, "town;promise 0 0;", 15);
-        fault(x, "town;promise 0 10;", 15);
-        fault(x, "town;promise 0;", 14);
-        fault(x, "town;promise;", 12);
-        fault(x, "town;promise plain 1;", 13);
-        fault(x, "town;promise 0 1 2;", 17);
-        fault(x, "town;promise 001 1;", 13);
-        fault(x, "town;promise 0 001;", 15);
-        fault(x, "town;hearer 6 1;", 12);
-        fault(x, "town;hearer 0 0;", 14);
-        fault(x, "town;hearer 0 10;", 14);
-        fault(x, "town;buyer 100;", 11);
-        fault(x, "town;buyer 000;", 11);
-        fault(x, "town;buyer -1;", 11);
-        fault(x, "town;buyer 1 234;", 13);
-        fault(x, "town;days 0;", 10);
-        fault(x, "town;days 00;", 10);
-        fault(x, "town;days 100;", 10);
-        fault(x, "town;days 9999999999999999;", 10);
-        fault(x, "town;days 1 2;", 12);
-        fault(x, "town;days 1x;", 11);
-        fault(x, "town;days 1 days 2;", 12);
+        fault("town;promise 6 1;", 13);
+        fault("town;promise 10 1;", 13);
+        fault("town;promise 0 0;", 15);
+        fault("town;promise 0 10;", 15);
+        fault("town;promise 0;", 14);
+        fault("town;promise;", 12);
+        fault("town;promise plain 1;", 13);
+        fault("town;promise 0 1 2;", 17);
+        fault("town;promise 001 1;", 13);
+        fault("town;promise 0 001;", 15);
+        fault("town;hearer 6 1;", 12);
+        fault("town;hearer 0 0;", 14);
+        fault("town;hearer 0 10;", 14);
+        fault("town;buyer 100;", 11);
+        fault("town;buyer 000;", 11);
+        fault("town;buyer -1;", 11);
+        fault("town;buyer 1 234;", 13);
+        fault("town;days 0;", 10);
+        fault("town;days 00;", 10);
+        fault("town;days 100;", 10);
+        fault("town;days 9999999999999999;", 10);
+        fault("town;days 1 2;", 12);
+        fault("town;days 1x;", 11);
+        fault("town;days 1 days 2;", 12);
         Check.due("the most of numbers", read(x, "town;promise 5 9;hearer 5 9;buyer 99;days 99;"), 5);
         Check.due("the least of numbers", read(x, "town;promise 0 1;hearer 0 1;buyer 0;days 1;"), 5);
         Check.due("00 for 0", read(x, "town;promise 00 01;hearer 00 01;buyer 00;days 01;"), 5);
@@ -335,48 +338,47 @@ public final class TownTest {
         PledgeWindow x = new PledgeWindow();
         String seven = "town;promise 0 1;promise 0 1;promise 0 1;promise 0 1;promise 0 1;promise 0 1;"
                 + "promise 0 1;";
-        fault(x, seven + "promise 0 1;", 89);
-        fault(x, seven + "promise;", 89);
-        fault(x, seven + " promises", 90);
+        fault(seven + "promise 0 1;", 89);
+        fault(seven + "promise;", 89);
+        fault(seven + " promises", 90);
         String four = "town;hearer 0 1;hearer 0 1;hearer 0 1;hearer 0 1;";
-        fault(x, four + "hearer 9 9;", 49);
-        fault(x, "town;buyer 1;buyer 1;buyer 1;buyer 1;", 29);
-        fault(x, "town;promise 0 1;buy 0 0;", 21);
-        fault(x, "town;buyer 3;buy 0 0;", 19);
-        fault(x, "town;buyer 3;promise 0 1;buy 1 0;", 29);
-        fault(x, "town;buyer 3;promise 0 1;buy 0 1;", 31);
-        fault(x, "town;buyer 2;promise 0 1;buy 0 0;", 31);
-        fault(x, "town;buyer 9;promise 0 1;buy 0 0;buy 0 0;", 39);
-        fault(x, "town;buyer 9;promise 0 1;hearer 0 1;keep 0 0;", 41);
-        fault(x, "town;buyer 9;promise 0 1;hearer 0 1;buy 0 0;keep 1 0;", 49);
-        fault(x, "town;buyer 9;promise 0 1;hearer 0 1;buy 0 0;keep 0 1;", 51);
-        fault(x, "town;buyer 9;promise 0 1;buy 0 0;keep 0 0;", 40);
-        fault(x, "town;buyer 9;promise 0 1;hearer 0 1;buy 0 0;keep 0 0;keep 0 0;", 58);
-        fault(x, "town;buyer 9;promise 0 1;hearer 0 1;buy 0 0;keep 0 0;buy 0 0;", 59);
-        fault(x, "town;buyer 9;promise 1 4;buy 0 0;promise 1 4;days 10;buy 0 1;", 59);
+        fault(four + "hearer 9 9;", 49);
+        fault("town;buyer 1;buyer 1;buyer 1;buyer 1;", 29);
+        fault("town;promise 0 1;buy 0 0;", 21);
+        fault("town;buyer 3;buy 0 0;", 19);
+        fault("town;buyer 3;promise 0 1;buy 1 0;", 29);
+        fault("town;buyer 3;promise 0 1;buy 0 1;", 31);
+        fault("town;buyer 2;promise 0 1;buy 0 0;", 31);
+        fault("town;buyer 9;promise 0 1;buy 0 0;buy 0 0;", 39);
+        fault("town;buyer 9;promise 0 1;hearer 0 1;keep 0 0;", 41);
+        fault("town;buyer 9;promise 0 1;hearer 0 1;buy 0 0;keep 1 0;", 49);
+        fault("town;buyer 9;promise 0 1;hearer 0 1;buy 0 0;keep 0 1;", 51);
+        fault("town;buyer 9;promise 0 1;buy 0 0;keep 0 0;", 40);
+        fault("town;buyer 9;promise 0 1;hearer 0 1;buy 0 0;keep 0 0;keep 0 0;", 58);
+        fault("town;buyer 9;promise 0 1;hearer 0 1;buy 0 0;keep 0 0;buy 0 0;", 59);
+        fault("town;buyer 9;promise 1 4;buy 0 0;promise 1 4;days 10;buy 0 1;", 59);
         Check.due("a PURSE that just holds it", read(x, "town;buyer 9;promise 1 4;buy 0 0;"), 4);
         Check.due("what it holds then", x.purse(0, 0), 0);
         // a SHIP is cheap ahead of its day, and dear from then on
         Check.due("a ship out", read(x, "town;buyer 1;promise 4 9;days 6;buy 0 0;"), 5);
-        fault(x, "town;buyer 1;promise 4 9;days 7;buy 0 0;", 38);
+        fault("town;buyer 1;promise 4 9;days 7;buy 0 0;", 38);
     }
 
     private static void readTooEarly() {
-        PledgeWindow x = new PledgeWindow();
-        fault(x, "", 0);
-        fault(x, "   ", 3);
-        fault(x, "town", 4);
-        fault(x, "town  ", 6);
-        fault(x, "town;promise", 12);
-        fault(x, "town;promise 5", 14);
-        fault(x, "town;promise 5 ", 15);
-        fault(x, "town;promise 5 9", 16);
-        fault(x, "town;days 1", 11);
-        fault(x, "town;buy", 8);
-        fault(x, "town;keep", 9);
-        fault(x, "town;promise 0 1;buyer 9;buy 0", 30);
-        fault(x, "town;promise 0 1;buyer 9;hearer 0 1;buy 0 0;keep 0", 50);
-        fault(x, "town;promise 0 1;buyer 9;hearer 0 1;buy 0 0;keep 0 0", 52);
+        fault("", 0);
+        fault("   ", 3);
+        fault("town", 4);
+        fault("town  ", 6);
+        fault("town;promise", 12);
+        fault("town;promise 5", 14);
+        fault("town;promise 5 ", 15);
+        fault("town;promise 5 9", 16);
+        fault("town;days 1", 11);
+        fault("town;buy", 8);
+        fault("town;keep", 9);
+        fault("town;promise 0 1;buyer 9;buy 0", 30);
+        fault("town;promise 0 1;buyer 9;hearer 0 1;buy 0 0;keep 0", 50);
+        fault("town;promise 0 1;buyer 9;hearer 0 1;buy 0 0;keep 0 0", 52);
     }
 
     private static void readLeavesAllAtFault() {
@@ -389,7 +391,7 @@ public final class TownTest {
         x.note(0, 5, 4, 5);
         x.mark(0, 5, 5, 8);
         x.redeemed(5);
-        fault(x, "town;promise 3 3;hearer 3 3;buyer 3;days 3;nothing", 43);
+        faultOf(x, "town;promise 3 3;hearer 3 3;buyer 3;days 3;nothing", 43);
         Check.due("what may be undone stays", x.count(10), 1);
         Check.due("undo()", x.undo(), 0);
     }

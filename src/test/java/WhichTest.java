@@ -349,22 +349,19 @@ public final class WhichTest {
         return java.util.Arrays.copyOf(pairs, found);
     }
 
-    /** JOYS from 0 to a KEEPER's 12, by all WORTHS and KINDS of HEARERS. */
+    /** JOYS from 0 to a KEEPER's 12, by WORTHS and KINDS of HEARERS. */
     private static void bidsOfAllJoys() {
         boolean[] met = new boolean[13];
         for (int kind = 0; kind < 6; kind++) {
-            PledgeWindow x = new PledgeWindow();
-            x.hearer(kind, 5);
-            x.hearer(kind, 1);
-            x.buyer(0);
-            x.buyer(0);
             for (int worth = 3; worth <= 9; worth++) {
-                x.promise(0, worth);
-            }
-            for (int p = 0; p < 7; p++) {
-                for (int h = 0; h < 2; h++) {
-                    met[x.joy(p, h)] = true;
-                    bidsAre(x, p, h, restingPairs(x.joy(p, h)));
+                for (int want = 1; want <= 5; want += 4) {
+                    PledgeWindow x = new PledgeWindow();
+                    x.hearer(kind, want);
+                    x.promise(0, worth);
+                    x.buyer(0);
+                    x.buyer(0);
+                    met[x.joy(0, 0)] = true;
+                    bidsAre(x, 0, 0, restingPairs(x.joy(0, 0)));
                 }
             }
         }
