@@ -4,7 +4,7 @@
  * call answers; words in capitals are its terms.
  *
  * All rows are made with the object and used again, so no call makes an object or an array.
- * Rows are reached through at() and put() alone, which look at the index first.
+ * Rows are reached through at(), put() and copyCells() alone, which look at the index first.
  */
 public final class PledgeWindow {
     public static final int NONE = -1, BAD = -2, NO = -3, FULL = -4;
